@@ -1084,6 +1084,9 @@ public final class PostHouses {
         private int[] kind = null;
         private final int[] corners = new int[MAX_HOLES];
         private int cornerCount = 0;
+        /** The corners that are as far from p as r may be. */
+        private final int[] thirds = new int[MAX_HOLES];
+        private int thirdCount = 0;
         private final House trial = new House();
         private int filled = 0;
         private int missed = 0;
@@ -1115,10 +1118,13 @@ public final class PostHouses {
             trial.life = kind[KindText.LIFE];
             nameCorners();
             for (int a = 0; a < cornerCount; a++) {
+                int p = corners[a];
+                nameThirds(p);
                 for (int b = 0; b < cornerCount; b++) {
-                    boolean isStep = a != b && setStep(corners[a], corners[b]);
-                    for (int c = 0; isStep && c < cornerCount; c++) {
-                        if (c != a && c != b && setApart(corners[a], corners[c]) && grow()) {
+                    int q = corners[b];
+                    boolean isStep = p != q && setStep(p, q);
+                    for (int c = 0; isStep && c < thirdCount; c++) {
+                        if (thirds[c] != q && setApart(p, thirds[c]) && grow()) {
                             note(list);
                         }
                     }
@@ -1161,16 +1167,22 @@ public final class PostHouses {
             return isLong(trial.stepX, trial.stepY, KindText.STEP);
         }
 
-        private boolean setApart(int p, int r) {
-            int apartX = map.x[r] - map.x[p];
-            int apartY = map.y[r] - map.y[p];
-            if (!isLong(apartX, apartY, KindText.APART)) {
-                return false;
+        private void nameThirds(int p) {
+            thirdCount = 0;
+            for (int c = 0; c < cornerCount; c++) {
+                int r = corners[c];
+                if (r != p && isLong(map.x[r] - map.x[p], map.y[r] - map.y[p], KindText.APART)) {
+                    thirds[thirdCount] = r;
+                    thirdCount++;
+                }
             }
+        }
+
+        private boolean setApart(int p, int r) {
             trial.r = map.hole[r];
-            trial.apartX = apartX;
-            trial.apartY = apartY;
-            int along = trial.stepX * apartX + trial.stepY * apartY;
+            trial.apartX = map.x[r] - map.x[p];
+            trial.apartY = map.y[r] - map.y[p];
+            int along = trial.stepX * trial.apartX + trial.stepY * trial.apartY;
             int step = trial.stepX * trial.stepX + trial.stepY * trial.stepY;
             int slack = kind[KindText.SLACK];
             return along * along <= slack * slack * step;
@@ -1192,10 +1204,14 @@ public final class PostHouses {
             spots = 0;
             trial.posts = 0;
             int most = kind[KindText.SORTS + KindText.POSTS];
-            for (int i = 0; i < most && fillPair(i); i++) {
-                if (i + 1 >= kind[KindText.POSTS] && 2 * filled >= (i + 1) * trial.rows) {
+            boolean goesOn = true;
+            for (int i = 0; i < most && goesOn; i++) {
+                goesOn = fillAcross(i);
+                int empty = (i + 1) * trial.rows - filled;
+                if (goesOn && i + 1 >= kind[KindText.POSTS] && filled >= empty) {
                     keep(i + 1);
                 }
+                goesOn = goesOn && 2 * empty <= most * trial.rows;
             }
             return trial.posts > 0;
         }
@@ -1211,7 +1227,7 @@ public final class PostHouses {
         }
 
         /** Fills the PLACES i, j of all rows; false, if it is no HOUSE with these or with more. */
-        private boolean fillPair(int i) {
+        private boolean fillAcross(int i) {
             int before = NONE;
             for (int j = 0; j < trial.rows; j++) {
                 int state = stateAt(trial.x + i * trial.stepX + j * trial.apartX,
