@@ -542,8 +542,8 @@ public final class PostHouses {
             int deepest = 0;
             for (int at = 0; at < ploughed.size * Ledger.WIDTH; at += Ledger.WIDTH) {
                 if (x >= plots[at] && y >= plots[at + 1] && x <= plots[at + 2]
-                        && y <= plots[at + 3]) {
-                    deepest = Math.max(deepest, plots[at + 4]);
+                        && y <= plots[at + 3] && plots[at + 4] > deepest) {
+                    deepest = plots[at + 4];
                 }
             }
             return deepest;
@@ -979,7 +979,7 @@ public final class PostHouses {
 
         /** The nearest SPOT that is not farther than slack, of alike ones the lower; NONE. */
         int nearest(int px, int py, int slack) {
-            int from = Math.max(0, px - slack);
+            int from = px > slack ? px - slack : 0;
             if (from > LAST_PLACE) {
                 return NONE;
             }

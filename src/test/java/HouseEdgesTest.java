@@ -776,10 +776,10 @@ public final class HouseEdgesTest {
                 "kind{step 10 to 10,apart 5 to 5,slack 5,posts 2 to 2}");
         due("a flat house", x.house(0, 0, 5), 4);
         due("as much is not below", x.strength(0, 0), 0);
-        PostHouses two = Edges.kinds(Edges.book(eight), Edges.ELL + ";kind{step 99 to 100}");
-        due("of its own kind", two.strength(0, 0), 7);
+        PostHouses two = Edges.kinds(Edges.book(THREE), Edges.ELL + ";kind{step 99 to 100}");
+        due("of its own kind", two.strength(0, 0), 3);
         due("of a kind that has none", two.strength(1, 0), 0);
-        due("asked again", two.strength(0, 0), 7);
+        due("asked again", two.strength(0, 0), 3);
         Edges.says("`int strength(int kind, int known)`: STRENGTH of a KIND; NONE.");
         for (int kind : new int[] {-1, 1, 5, MAX, MIN}) {
             due("kind " + kind, x.strength(kind, 0), NONE);

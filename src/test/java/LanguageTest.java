@@ -19,7 +19,7 @@ public final class LanguageTest {
             + "status strength strike trench";
     private static final String FORBIDDEN = "\\b(throw|throws|try|catch|finally|synchronized|assert|"
             + "volatile|transient|native|strictfp|System\\.out|System\\.nanoTime|Random|Thread)\\b"
-            + "|->|::";
+            + "|->|::|while \\(true\\)|for \\(;|\"\" \\+|\\+ \"\"";
 
     private static int wrong = 0;
 

@@ -1,6 +1,7 @@
 import java.util.ArrayList;
 import java.util.List;
 import java.util.Random;
+import java.util.stream.LongStream;
 
 /** Runs of calls, made up by fixed seeds, on the class and on the plain model: all answers alike. */
 public final class ModelTest {
@@ -9,6 +10,7 @@ public final class ModelTest {
     private static final int[][] WAYS = {{20, 0}, {0, 20}, {12, 16}, {16, -12}, {24, 7}, {30, 0},
         {15, 20}, {10, 0}, {0, 35}, {40, 0}, {7, 24}, {-20, 1}};
 
+    private final long seed;
     private final Random random;
     private final PostHouses real = new PostHouses();
     private final PlainModel model = new PlainModel();
@@ -20,6 +22,7 @@ public final class ModelTest {
     private boolean same = true;
 
     private ModelTest(long seed) {
+        this.seed = seed;
         random = new Random(seed);
         turn = random.nextInt(4);
         shiftX = random.nextInt(41) - 20;
@@ -30,15 +33,12 @@ public final class ModelTest {
     public static void main(String[] args) {
         long from = args.length > 0 ? Long.parseLong(args[0]) : 1;
         long to = args.length > 1 ? Long.parseLong(args[1]) : 80;
-        int wrong = 0;
-        for (long seed = from; seed <= to && wrong < 5; seed++) {
-            ModelTest run = new ModelTest(seed);
-            run.play();
-            if (!run.same) {
-                wrong++;
-                System.out.println("seed " + seed + ":");
-                run.calls.forEach(c -> System.out.println("  " + c));
-            }
+        List<ModelTest> differing = LongStream.rangeClosed(from, to).parallel()
+                .mapToObj(ModelTest::new).peek(ModelTest::play).filter(run -> !run.same).toList();
+        int wrong = differing.size();
+        for (ModelTest run : differing.subList(0, Math.min(5, wrong))) {
+            System.out.println("seed " + run.seed + ":");
+            run.calls.forEach(c -> System.out.println("  " + c));
         }
         System.out.println(wrong == 0 ? "the class and the model agree" : wrong + " runs differ");
         if (wrong != 0) {
